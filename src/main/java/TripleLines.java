@@ -283,13 +283,9 @@ public final class TripleLines {
 
         /**
          * The number of the term that is like this one; it is added when there is none.
-         * Once a term had no room, none gets a number: a literal whose type had none
-         * would else pass for one without a type.
+         * What follows a term without room goes with the reading, which is full then.
          */
         int numberOf(int kind, Row text, Row tag, int type) {
-            if (full) {
-                return NONE;
-            }
             int first = kind == LABEL ? firstOfReading : 0;
             for (int t = first; t < size; t++) {
                 if (isLike(t, kind, text, tag, type)) {

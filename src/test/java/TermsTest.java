@@ -44,6 +44,7 @@ public final class TermsTest {
         Check.read(x, "<a> <a> \"\" .\n<a> <a> \"\"@a .\n<a> <a> \"\"^^<a> .\n<aa> <a> <a> .\n<a> <a> \"aa\" .");
         Check.due("a text is not its beginning", x.count(1), 16);
         Check.due("empty literals differ", x.count(0), 14);
+        Check.due("tags of one length differ", Check.read(x, "<a> <a> \"a\"@fr .\n<a> <a> \"a\"@fn .\n<a> <a> \"a\"@Fn ."), 2);
     }
 
     private static void labelsHoldWithinOneReading() {
