@@ -10,14 +10,14 @@ public final class FindDropTest {
         Check.end();
     }
 
-    private static TripleLines withQuads() {
-        TripleLines x = new TripleLines();
+    private static Counted withQuads() {
+        Counted x = new Counted();
         Check.read(x, "<a> <b> <c> .\n<a> <b> <c> <d> .\n<c> <b> <a> .\n<a> <b> \"c\"@en _:g .");
         return x;
     }
 
     private static void finds() {
-        TripleLines x = withQuads();
+        Counted x = withQuads();
         Check.due("without graph", x.find(0, 1, 2, -1), 0);
         Check.due("with graph", x.find(0, 1, 2, 3), 1);
         Check.due("turned round", x.find(2, 1, 0, -1), 2);
@@ -34,7 +34,7 @@ public final class FindDropTest {
     }
 
     private static void drops() {
-        TripleLines x = withQuads();
+        Counted x = withQuads();
         int[] wrong = {Integer.MIN_VALUE, -1, 4, 80, Integer.MAX_VALUE};
         for (int i : wrong) {
             Check.due("drop(" + i + ")", x.drop(i), TripleLines.BAD);
@@ -55,7 +55,7 @@ public final class FindDropTest {
     }
 
     private static void dropsAll() {
-        TripleLines x = new TripleLines();
+        Counted x = new Counted();
         StringBuilder lines = new StringBuilder();
         for (int i = 0; i < 80; i++) {
             lines.append("<a> <b> <").append(i).append("> .\n");

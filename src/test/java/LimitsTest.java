@@ -32,7 +32,7 @@ public final class LimitsTest {
         return lines.toString();
     }
 
-    private static void stays(TripleLines x, int quads, int terms, int readings) {
+    private static void stays(Counted x, int quads, int terms, int readings) {
         Check.due("quads that stay", x.count(0), quads);
         Check.due("terms that stay", x.count(1), terms);
         Check.due("readings that stay", x.count(2), readings);
@@ -40,7 +40,7 @@ public final class LimitsTest {
     }
 
     private static void eightyQuads() {
-        TripleLines x = new TripleLines();
+        Counted x = new Counted();
         Check.due("eighty quads", Check.read(x, quads(0, 80)), 80);
         int terms = x.count(1);
         Check.due("one more", Check.read(x, "<a> <p0> <p0> ."), TripleLines.FULL);
@@ -56,15 +56,15 @@ public final class LimitsTest {
     }
 
     private static void tooManyQuadsAtOnce() {
-        TripleLines x = new TripleLines();
+        Counted x = new Counted();
         Check.due("81 quads", Check.read(x, quads(0, 81)), TripleLines.FULL);
         stays(x, 0, 0, 0);
         Check.due("80 quads with like ones", Check.read(x, quads(0, 80) + quads(0, 70)), 80);
         Check.due("readings", x.count(2), 1);
     }
 
-    private static TripleLines withTerms(int terms) {
-        TripleLines x = new TripleLines();
+    private static Counted withTerms(int terms) {
+        Counted x = new Counted();
         Check.read(x, nodes(0, 79).replace("<a> .", "<a> <b> ."));
         for (int i = 0; i < 40; i++) {
             x.drop(0);
@@ -75,7 +75,7 @@ public final class LimitsTest {
     }
 
     private static void hundredAndTwentyTerms() {
-        TripleLines x = withTerms(119);
+        Counted x = withTerms(119);
         Check.due("the 120th", Check.read(x, "<new> <a> <a> ."), 1);
         Check.due("the 121st", Check.read(x, "<newer> <a> <a> ."), TripleLines.FULL);
         Check.due("its number", x.term(120, 0), TripleLines.BAD);
@@ -86,7 +86,7 @@ public final class LimitsTest {
     }
 
     private static void tooManyTermsAtOnce() {
-        TripleLines x = withTerms(118);
+        Counted x = withTerms(118);
         int quads = x.count(0);
         int readings = x.count(2);
         Check.due("three where two have room", Check.read(x, "<x> <y> <a> .\n<z> <a> <a> ."), TripleLines.FULL);
@@ -100,36 +100,38 @@ public final class LimitsTest {
     }
 
     private static void typeWithoutRoom() {
-        TripleLines x = withTerms(118);
+        Counted x = withTerms(118);
         Check.due("a plain literal", Check.read(x, "<a> <a> \"c\" ."), 1);
         Check.due("a label", Check.read(x, "_:c <a> \"c\" ."), 1);
         Check.due("a type without room", Check.read(x, "<a> <a> \"c\"^^<new> ."), TripleLines.FULL);
         Check.due("terms", x.count(1), 120);
         Check.due("a type that is there, a literal without room", Check.read(x, "<a> <a> \"c\"^^<a> ."), TripleLines.FULL);
         Check.due("a tag without room", Check.read(x, "<a> <a> \"c\"@en ."), TripleLines.FULL);
-        TripleLines y = withTerms(119);
+        Counted y = withTerms(119);
         Check.due("room for the type alone", Check.read(y, "<a> <a> \"c\"^^<new> ."), TripleLines.FULL);
         Check.due("no type is left", y.count(1), 119);
     }
 
     private static void labelsWithoutRoom() {
-        TripleLines x = withTerms(119);
+        Counted x = withTerms(119);
         Check.due("a label", Check.read(x, "_:l <a> _:l ."), 1);
         Check.due("the same name in another reading", Check.read(x, "_:l <a> <a> ."), TripleLines.FULL);
         Check.due("terms", x.count(1), 120);
     }
 
     private static void faultGoesBeforeFull() {
-        TripleLines x = new TripleLines();
+        Counted x = new Counted();
         String lines = quads(0, 81);
         Check.due("a fault behind what has no room", Check.read(x, lines + "\n!"), -10 - lines.length() - 1);
         Check.due("its line", x.line(), 82);
         stays(x, 0, 0, 0);
         lines = nodes(0, 79) + "<a> <a> \"1\"^^<2> <3> .\n" + nodes(79, 130);
-        Check.due("a fault behind terms without room", Check.read(x, lines + "<a> <a> \"\\"), -10 - lines.length() - 9);
-        stays(x, 0, 0, 0);
-        Check.due("both without room", Check.read(x, lines), TripleLines.FULL);
-        Check.due("lines", x.line(), 132);
-        stays(x, 0, 0, 0);
+        Counted y = new Counted();
+        Check.due("a fault behind terms without room", Check.read(y, lines + "<a> <a> \"\\"), -10 - lines.length() - 9);
+        stays(y, 0, 0, 0);
+        Counted z = new Counted();
+        Check.due("both without room", Check.read(z, lines), TripleLines.FULL);
+        Check.due("lines", z.line(), 132);
+        stays(z, 0, 0, 0);
     }
 }

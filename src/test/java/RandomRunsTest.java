@@ -2,7 +2,8 @@ import java.util.Random;
 
 /** All promises: runs of calls by chance, always the same ones, against the model. */
 public final class RandomRunsTest {
-    private static final int RUNS = 3000;
+    private static final int RUNS = 6000;
+    private static final int CALLS_TO_LOOK = 100;
     private static final String[] CODES = {"a", "b", "B", "7", "'", "~", "#", ".", "_", "\\u0061", "\\u00e9", "\\U0001f600",
         "\\U00000062", "\\uFFFD", "\\u007F"};
     private static final String[] LITERAL_CODES = {"a", " ", "\t", "<", ">", "\\t", "\\b", "\\n", "\\r", "\\f", "\\\"", "\\'",
@@ -14,10 +15,9 @@ public final class RandomRunsTest {
         "@", "^", "^^", "#", "\n", " ", "\t", "\r", "\u0000", "\u007f", "\u00ff", "{", "`", "'", "aaaaaaaa", "0000", "\\u0020"};
 
     private final Random random;
-    private final TripleLines x = new TripleLines();
+    private final Counted x = new Counted();
     private final Model model = new Model();
     private final String run;
-    private int calls = 0;
 
     private RandomRunsTest(int seed) {
         random = new Random(seed);
@@ -35,7 +35,7 @@ public final class RandomRunsTest {
     private void run() {
         int spread = 1 + random.nextInt(12);
         int noise = random.nextInt(3);
-        while (calls < 512) {
+        while (x.callsLeft() > CALLS_TO_LOOK) {
             int kind = random.nextInt(10);
             if (kind < 4) {
                 typeLines(spread, noise);
@@ -57,11 +57,13 @@ public final class RandomRunsTest {
                 look();
             }
         }
-        lookAtAll();
+        while (x.callsLeft() >= 8) {
+            look();
+            lookAtOut();
+        }
     }
 
     private void answer(String call, int got, int want) {
-        calls++;
         Check.due(run + call, got, want);
     }
 
@@ -80,7 +82,7 @@ public final class RandomRunsTest {
             lines.setLength(random.nextInt(lines.length() + 1));
         }
         String text = lines.toString();
-        for (int from = 0; from < text.length(); from += 8) {
+        for (int from = 0; from < text.length() && x.callsLeft() > CALLS_TO_LOOK; from += 8) {
             int n = Math.min(8, text.length() - from);
             long bytes = random.nextLong();
             for (int i = 0; i < n; i++) {
@@ -135,48 +137,34 @@ public final class RandomRunsTest {
     }
 
     private void look() {
-        int t = random.nextInt(model.terms.size() + 3) - 1;
+        int t = random.nextInt(model.terms.size() + 2) - 1;
         int what = random.nextInt(7) - 1;
         answer("term(" + t + ", " + what + ")", x.term(t, what), model.term(t, what));
-        answer("code(" + t + ", " + what + ")", x.code(t, what), model.code(t, what));
-        int i = random.nextInt(model.quads.size() + 3) - 1;
+        int place = random.nextInt(Math.max(0, model.term(t, 2)) + 2) - 1;
+        answer("code(" + t + ", " + place + ")", x.code(t, place), model.code(t, place));
+        int i = random.nextInt(model.quads.size() + 2) - 1;
         answer("quad(" + i + ", " + what + ")", x.quad(i, what), model.quad(i, what));
         answer("count(" + what + ")", x.count(what), model.count(what));
-        int g = random.nextInt(4) - 2;
-        answer("find", x.find(t, 1, 2, g), model.find(t, 1, 2, g));
+        find(random.nextInt(model.quads.size() + 1));
+    }
+
+    /** Looks for a quad that is there (none behind the last), now and then with one part changed. */
+    private void find(int i) {
+        int[] parts = new int[4];
+        for (int which = 0; which < 4; which++) {
+            parts[which] = Math.max(-1, model.quad(i, which));
+        }
+        if (random.nextInt(3) == 0) {
+            parts[random.nextInt(4)] = random.nextInt(model.terms.size() + 4) - 3;
+        }
+        String call = "find(" + parts[0] + ", " + parts[1] + ", " + parts[2] + ", " + parts[3] + ")";
+        answer(call, x.find(parts[0], parts[1], parts[2], parts[3]), model.find(parts[0], parts[1], parts[2], parts[3]));
     }
 
     private void lookAtOut() {
         for (int n = 0; n < 3; n++) {
             int i = random.nextInt(model.out.length() + 3) - 1;
             answer("at(" + i + ")", x.at(i), model.at(i));
-        }
-    }
-
-    /** Behind the 512th call nothing is due by the document; the class answers as before. */
-    private void lookAtAll() {
-        for (int what = 0; what < 5; what++) {
-            answer("count(" + what + ")", x.count(what), model.count(what));
-        }
-        for (int t = 0; t < model.terms.size(); t++) {
-            for (int what = 0; what < 5; what++) {
-                answer("term(" + t + ", " + what + ")", x.term(t, what), model.term(t, what));
-            }
-            for (int i = 0; i < 41; i++) {
-                answer("code(" + t + ", " + i + ")", x.code(t, i), model.code(t, i));
-            }
-        }
-        for (int i = 0; i < model.quads.size(); i++) {
-            for (int which = 0; which < 4; which++) {
-                answer("quad(" + i + ", " + which + ")", x.quad(i, which), model.quad(i, which));
-            }
-            int s = model.quad(i, 0);
-            int g = Math.max(-1, model.quad(i, 3));
-            answer("find", x.find(s, model.quad(i, 1), model.quad(i, 2), g), i);
-        }
-        for (int form = 0; form < 2; form++) {
-            answer("print(" + form + ")", x.print(form), model.print(form));
-            Check.due(run + "the out", Check.out(x), model.out);
         }
     }
 }

@@ -15,7 +15,7 @@ public final class TapeTest {
     }
 
     private static void newObject() {
-        TripleLines x = new TripleLines();
+        Counted x = new Counted();
         for (int what = 0; what < 5; what++) {
             Check.due("count(" + what + ") of a new one", x.count(what), 0);
         }
@@ -32,7 +32,7 @@ public final class TapeTest {
     }
 
     private static void typesHighestByteFirst() {
-        TripleLines x = new TripleLines();
+        Counted x = new Counted();
         Check.due("type 1", x.type('<', 1), 1);
         Check.due("type the lowest three", x.type(0x7777777777613e20L, 3), 4);
         Check.due("type eight", x.type(0x3c623e203c633e2eL, 8), 12);
@@ -45,7 +45,7 @@ public final class TapeTest {
     }
 
     private static void refusesWrongLengths() {
-        TripleLines x = new TripleLines();
+        Counted x = new Counted();
         int[] wrong = {0, -1, 9, 64, Integer.MIN_VALUE, Integer.MAX_VALUE};
         for (int n : wrong) {
             Check.due("type(.., " + n + ")", x.type(35L, n), TripleLines.BAD);
@@ -53,15 +53,15 @@ public final class TapeTest {
         Check.due("bytes after wrong lengths", x.count(3), 0);
     }
 
-    private static TripleLines withTape(int length) {
-        TripleLines x = new TripleLines();
+    private static Counted withTape(int length) {
+        Counted x = new Counted();
         Check.put(x, "#".repeat(length));
         Check.due("bytes on the tape", x.count(3), length);
         return x;
     }
 
     private static void tapeIsFull() {
-        TripleLines x = withTape(2996);
+        Counted x = withTape(2996);
         Check.due("five where four have room", x.type(0L, 5), TripleLines.FULL);
         Check.due("nothing came", x.count(3), 2996);
         Check.due("nine go before full", x.type(0L, 9), TripleLines.BAD);
@@ -74,7 +74,7 @@ public final class TapeTest {
     }
 
     private static void passes() {
-        TripleLines x = new TripleLines();
+        Counted x = new Counted();
         Check.due("pass an empty out", x.pass(), 0);
         Check.read(x, "<a> <b> <c> .");
         x.print(0);
@@ -86,20 +86,24 @@ public final class TapeTest {
         Check.due("lines", x.line(), 3);
     }
 
-    private static void passIsFull() {
-        TripleLines x = new TripleLines();
+    private static Counted withOutAndTape(int length) {
+        Counted x = new Counted();
         Check.read(x, "<a> <b> <c> .");
         x.print(0);
-        Check.put(x, "#".repeat(2987));
+        Check.put(x, "#".repeat(length));
+        return x;
+    }
+
+    private static void passIsFull() {
+        Counted x = withOutAndTape(2987);
         Check.due("fourteen where thirteen have room", x.pass(), TripleLines.FULL);
         Check.due("nothing came", x.count(3), 2987);
-        x.read();
-        Check.put(x, "#".repeat(2986));
-        Check.due("fourteen where fourteen have room", x.pass(), 3000);
+        Counted y = withOutAndTape(2986);
+        Check.due("fourteen where fourteen have room", y.pass(), 3000);
     }
 
     private static void counts() {
-        TripleLines x = new TripleLines();
+        Counted x = new Counted();
         Check.read(x, "<a> <b> <c> .\n<a> <b> _:d .");
         Check.put(x, "<z");
         x.print(0);

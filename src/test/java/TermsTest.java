@@ -16,7 +16,7 @@ public final class TermsTest {
     }
 
     private static void numbersTerms() {
-        TripleLines x = new TripleLines();
+        Counted x = new Counted();
         Check.due("three quads", Check.read(x, "_:a <p> \"c\"^^<t> <g> .\n<t> <p> <t> .\n<t> <p> _:a _:b ."), 3);
         Check.due("terms", x.count(1), 6);
         Check.due("quad 0, its type before its literal", Check.parts(x, 0), "0 1 3 4");
@@ -29,7 +29,7 @@ public final class TermsTest {
     }
 
     private static void likeTerms() {
-        TripleLines x = new TripleLines();
+        Counted x = new Counted();
         Check.read(x, "<a> <\\u0061> \"a\" .\n<a> <\\U00000061> \"\\u0061\" _:a .");
         Check.due("a node by its codes", Check.parts(x, 0), "0 0 1 -2");
         Check.due("a literal by its codes", Check.parts(x, 1), "0 0 1 2");
@@ -48,7 +48,7 @@ public final class TermsTest {
     }
 
     private static void labelsHoldWithinOneReading() {
-        TripleLines x = new TripleLines();
+        Counted x = new Counted();
         Check.due("first reading", Check.read(x, "_:a <p> _:a _:A .\n_:a.b <p> _:b ."), 2);
         Check.due("labels of one reading", Check.parts(x, 0), "0 1 0 2");
         Check.due("names with dots", Check.parts(x, 1), "3 1 4 -2");
@@ -62,7 +62,7 @@ public final class TermsTest {
     }
 
     private static void likeQuads() {
-        TripleLines x = new TripleLines();
+        Counted x = new Counted();
         String lines = "<a> <b> <c> .\n<a> <b> <c> <g> .\n<a> <b> <c> .\n<a> <b> <c> <h> .\n<a> <b> <c> <g> .";
         Check.due("quads that were not there", Check.read(x, lines), 3);
         Check.due("read again", Check.read(x, lines), 0);
@@ -75,7 +75,7 @@ public final class TermsTest {
     }
 
     private static void factsOfTerms() {
-        TripleLines x = new TripleLines();
+        Counted x = new Counted();
         Check.read(x, "_:name.1 <p> \"\" <gr> .\n_:x <p> \"abc\"@EN-x9 .\n_:x <p> \"\\n\"^^<t> .");
         Check.due("a label", Check.facts(x, 0), "1 0 6 0 -2");
         Check.due("a node", Check.facts(x, 1), "0 0 1 0 -2");
@@ -90,7 +90,7 @@ public final class TermsTest {
     }
 
     private static void codes() {
-        TripleLines x = new TripleLines();
+        Counted x = new Counted();
         Check.read(x, "<a\\u00e9\\U0001F600> <b> \"\\t\\b\\n\\r\\f\\\"\\'\\\\\\u0000\\U0010ffff\t~\" _:a.b .");
         Check.due("codes of a node", Check.codes(x, 0), "a\u00e9\ud83d\ude00");
         Check.due("codes of a literal", Check.codes(x, 2), "\t\b\n\r\f\"'\\\u0000\udbff\udfff\t~");
@@ -111,7 +111,7 @@ public final class TermsTest {
     }
 
     private static void faultLeavesAll() {
-        TripleLines x = new TripleLines();
+        Counted x = new Counted();
         Check.read(x, "<a> <b> \"c\"@en .");
         Check.due("a fault behind new quads", Check.read(x, "<x> <y> <z> .\n<x> <y> \"z\"^^<w> _:v .\n!"), -47);
         Check.due("quads stay", x.count(0), 1);
@@ -126,7 +126,7 @@ public final class TermsTest {
     }
 
     private static void wrongNumbers() {
-        TripleLines x = new TripleLines();
+        Counted x = new Counted();
         Check.read(x, "<a> <b> <c> .");
         int[] wrong = {Integer.MIN_VALUE, -2, -1, 5, 80, 120, 1 << 30, Integer.MAX_VALUE};
         for (int n : wrong) {
