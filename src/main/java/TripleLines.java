@@ -216,7 +216,7 @@ public final class TripleLines {
         int lineEndsBefore(int end) {
             int ends = 0;
             for (int i = 0; i < end && i < length; i++) {
-                if (items[i] == LINE_END) {
+                if (get(i) == LINE_END) {
                     ends++;
                 }
             }
